@@ -102,6 +102,11 @@ public final class CallTest {
         StackJudge top = Due.program(Due.JOIN, 0, 1, 0, 2, 0, 3, 17, 0);
         top.call(0, 0, 0);
         Due.is("the top is the result", top.result(), 3);
+        StackJudge full = Due.program(Due.JOIN, 0, 1, 0, 2, 0, 3, 0, 4, 0, 5, 0, 6, 0, 7, 1, 0, 17, 0);
+        for (int a = 1; a <= 3; a++) {
+            Due.is("nothing is left on the stack for call " + a, full.call(a, 0, 0), 0);
+            Due.left("nothing is left on the stack for call " + a, full, a, 9, 0);
+        }
     }
 
     private static void jumps() {
@@ -152,7 +157,7 @@ public final class CallTest {
         Due.left("what the FOLD before left", fold, 3, 2, 0);
     }
 
-    /** A FOLD of `steps` steps: a loop of 5 a round, behind it goes that fill up. */
+    /** A FOLD with a loop of 5 steps a round, and goes behind it that fill up the steps. */
     private static StackJudge ofSteps(int rounds, int more) {
         StackJudge judge = Due.program(Due.FOLD, 0, rounds, 0, 1, 8, 0, 4, 0, 15, 6, 14, 1);
         for (int i = 0; i < more; i++) {
