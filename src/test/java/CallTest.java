@@ -157,26 +157,14 @@ public final class CallTest {
         Due.left("what the FOLD before left", fold, 3, 2, 0);
     }
 
-    /** A FOLD with a loop of 5 steps a round, and goes behind it that fill up the steps. */
-    private static StackJudge ofSteps(int rounds, int more) {
-        StackJudge judge = Due.program(Due.FOLD, 0, rounds, 0, 1, 8, 0, 4, 0, 15, 6, 14, 1);
-        for (int i = 0; i < more; i++) {
-            judge.code(14, 7 + i);
-        }
-        judge.code(0, 77);
-        judge.code(17, 0);
-        return judge;
-    }
-
-    // The loop: 1 step, then 5 a round but for the last with 4; then the end with 2.
     private static void stepLimit() {
-        StackJudge most = ofSteps(59, 3);
+        StackJudge most = Made.ofSteps(Due.FOLD, 300);
         Due.is("300 steps", most.call(0, 0, 0), 0);
         Due.left("300 steps", most, 77, 300, 0);
-        StackJudge fewer = ofSteps(59, 2);
+        StackJudge fewer = Made.ofSteps(Due.FOLD, 299);
         Due.is("299 steps", fewer.call(0, 0, 0), 0);
         Due.left("299 steps", fewer, 77, 299, 0);
-        StackJudge over = ofSteps(59, 4);
+        StackJudge over = Made.ofSteps(Due.FOLD, 301);
         Due.is("301 steps", over.call(0, 0, 0), 2);
         Due.left("301 steps", over, 0, 300, 0);
 
@@ -191,15 +179,8 @@ public final class CallTest {
         Due.left("go to itself", self, 0, 300, 0);
     }
 
-    /** A MAP that emits (count, b) for count from a down to 1. */
-    private static StackJudge countdown() {
-        StackJudge judge = Due.program(Due.MAP, 1, 0, 3, 0, 2, 0, 1, 1, 16, 0, 2, 0, 0, 1, 8, 0, 4, 0);
-        Due.add(judge, 3, 0, 15, 12, 14, 2, 17, 0);
-        return judge;
-    }
-
     private static void pairLimit() {
-        StackJudge judge = countdown();
+        StackJudge judge = Made.countdown();
         Due.is("20 pairs", judge.call(20, -9, 0), 0);
         Due.left("20 pairs", judge, 0, 202, 20);
         for (int k = 0; k < 20; k++) {

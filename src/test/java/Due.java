@@ -34,6 +34,13 @@ final class Due {
         is(what + " (kind " + kind + "): check()", program(kind, opsAndNs).check(), want);
     }
 
+    /** A new object's call with these three arguments ends with this result. */
+    static void results(String what, int want, int kind, int a, int b, int c, int... opsAndNs) {
+        StackJudge judge = program(kind, opsAndNs);
+        is(what + " (kind " + kind + "): call", judge.call(a, b, c), 0);
+        is(what + " (kind " + kind + "): result()", judge.result(), want);
+    }
+
     static void reached(String what, StackJudge judge, int... want) {
         for (int k = 0; k < want.length; k++) {
             is(what + ": heights(" + k + ")", judge.heights(k), want[k]);

@@ -44,7 +44,8 @@ public final class JudgeTest {
                 Due.checked("number " + n, NONE, kind, 0, n, 17, 0);
                 Due.checked("17 with " + n, NONE, kind, 0, 1, 17, n);
                 Due.checked("+ with " + n, NONE, kind, 0, 1, 0, 1, 7, n, 17, 0);
-                Due.checked("argument behind the end " + n, n >= 0 && n < arguments ? NONE : 2, kind, 0, 1, 17, 0, 1, n);
+                Due.checked("argument behind the end " + n, n >= 0 && n < arguments ? NONE : 2, kind,
+                    0, 1, 17, 0, 1, n);
             }
         }
         for (int n : new int[] {Integer.MIN_VALUE, -1, 3, 64, Integer.MAX_VALUE}) {
