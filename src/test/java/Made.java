@@ -27,11 +27,13 @@ final class Made {
         return judge;
     }
 
-    /** A MAP that emits (count, b) for count from a down to 1: 2 steps, and 10 a pair. */
+    /** Of a MAP: emits (count, b) for count from a down to 1: 2 steps, and 10 a pair. */
+    static int[] countdownRow() {
+        return new int[] {1, 0, 3, 0, 2, 0, 1, 1, 16, 0, 2, 0, 0, 1, 8, 0, 4, 0, 3, 0, 15, 12, 14, 2, 17, 0};
+    }
+
     static StackJudge countdown() {
-        StackJudge judge = Due.program(Due.MAP, 1, 0, 3, 0, 2, 0, 1, 1, 16, 0, 2, 0, 0, 1, 8, 0, 4, 0);
-        Due.add(judge, 3, 0, 15, 12, 14, 2, 17, 0);
-        return judge;
+        return Due.program(Due.MAP, countdownRow());
     }
 
     /** A MAP that emits so many pairs, waits, emits one more at this step, and ends with the next. */
